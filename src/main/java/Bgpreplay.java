@@ -248,7 +248,7 @@ public final class Bgpreplay {
     // ---- what the calls share
 
     private void needPeer(int peer) {
-        if (peer < 0 || peer >= PEERS) {
+        if (!isPeer(peer)) {
             throw new IndexOutOfBoundsException("no such peer");
         }
     }
@@ -304,6 +304,10 @@ public final class Bgpreplay {
             default:
                 return relation;
         }
+    }
+
+    private static boolean isPeer(int peer) {
+        return peer >= 0 && peer < PEERS;
     }
 
     private static boolean isNetwork(int network) {
@@ -467,13 +471,15 @@ public final class Bgpreplay {
         private final int[] countByPeer = new int[PEERS];
 
         Route routeOf(int peer, int number) {
-            return isCell(peer, number) ? cells[cellOf(peer, number)] : null;
+            int cell = cellOf(peer, number);
+            return cell == NONE ? null : cells[cell];
         }
 
         void put(Route route) {
             int number = route.prefix.number;
-            if (routeOf(route.peer, number) == null && isCell(route.peer, number)) {
-                cells[cellOf(route.peer, number)] = route;
+            int cell = cellOf(route.peer, number);
+            if (cell != NONE && cells[cell] == null) {
+                cells[cell] = route;
                 countByPrefix[number]++;
                 countByPeer[route.peer]++;
             }
@@ -481,15 +487,16 @@ public final class Bgpreplay {
 
         void remove(Route route) {
             int number = route.prefix.number;
-            if (routeOf(route.peer, number) == route && isCell(route.peer, number)) {
-                cells[cellOf(route.peer, number)] = null;
+            int cell = cellOf(route.peer, number);
+            if (cell != NONE && cells[cell] == route) {
+                cells[cell] = null;
                 countByPrefix[number]--;
                 countByPeer[route.peer]--;
             }
         }
 
         int countOfPeer(int peer) {
-            return peer < 0 || peer >= PEERS ? 0 : countByPeer[peer];
+            return isPeer(peer) ? countByPeer[peer] : 0;
         }
 
         int countPrefixes() {
@@ -560,12 +567,8 @@ public final class Bgpreplay {
             return isPrefixNumber(number) && countByPrefix[number] > 0;
         }
 
-        private static boolean isCell(int peer, int number) {
-            return peer >= 0 && peer < PEERS && isPrefixNumber(number);
-        }
-
         private static int cellOf(int peer, int number) {
-            return peer * PREFIX_NUMBERS + number;
+            return isPeer(peer) && isPrefixNumber(number) ? peer * PREFIX_NUMBERS + number : NONE;
         }
     }
 

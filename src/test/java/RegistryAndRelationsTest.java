@@ -7,6 +7,7 @@ public final class RegistryAndRelationsTest {
         allowRefuses();
         allowTwenty();
         verdict();
+        verdictOfOneEntry();
         verdictRefuses();
         relate();
         relateRefuses();
@@ -106,6 +107,21 @@ public final class RegistryAndRelationsTest {
         Check.due("the whole", 1, () -> x.verdict(1, 0, 0));
         x.allow(0, 0, 8, 20);
         Check.due("up to the greatest length", 1, () -> x.verdict(1, 255, 8));
+    }
+
+    private static void verdictOfOneEntry() {
+        Bgpreplay x = new Bgpreplay();
+        Check.path(x, 1, 20).announce(0, 192, 2);
+        x.allow(128, 1, 2, 20);
+        Check.due("the one allows it", 1, () -> x.verdict(0, 192, 2));
+        x.allow(128, 1, 2, 21);
+        Check.due("another entry does not matter", 1, () -> x.verdict(0, 192, 2));
+        x.allow(128, 1, 2, 20);
+        Check.due("the other one has another origin", 2, () -> x.verdict(0, 192, 2));
+        x.allow(128, 1, 2, 21);
+        Check.due("no entry", 0, () -> x.verdict(0, 192, 2));
+        x.allow(128, 1, 1, 20);
+        Check.due("the one is too short", 2, () -> x.verdict(0, 192, 2));
     }
 
     private static void verdictRefuses() {

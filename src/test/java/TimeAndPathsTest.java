@@ -117,6 +117,9 @@ public final class TimeAndPathsTest {
         Check.stateThrown("hop(9), the ninth", () -> x.hop(9));
         x.clearPath();
         Check.due("a cleared network comes again", 1, () -> x.hop(30));
+        Check.path(x, 5, 6);
+        Check.stateThrown("hop(5), the first again", () -> x.hop(5));
+        Check.due("nothing was put", 3, () -> x.hop(6));
         Check.due("the row of the path", "[1, 1, 2, 3, 4, 5, 30, 30]", () -> rowOf(1, 1, 2, 3, 4, 5, 30, 30));
     }
 
