@@ -10,6 +10,8 @@ public final class AgainstModelTest {
     private static final int[] WILD = {Integer.MIN_VALUE, -257, -9, -1, 0, 1, 6, 7, 8, 9, 30, 31, 32, 255, 256, 257, 511,
         512, 1000, 1001, 1000000, Integer.MAX_VALUE};
 
+    private static final int STEPS = 1500;
+
     private final Random random;
     private final int kind;
     private final Bgpreplay real = new Bgpreplay();
@@ -21,18 +23,22 @@ public final class AgainstModelTest {
     }
 
     public static void main(String[] args) {
-        for (long seed = 0; seed < 400; seed++) {
-            new AgainstModelTest(seed).run(seed);
+        boolean filled = false;
+        for (long seed = 0; seed < 200; seed++) {
+            AgainstModelTest row = new AgainstModelTest(seed);
+            row.run();
+            filled |= row.model.updates() == 300;
             if (Check.wrongSoFar() > 0) {
                 System.out.println("in the row of seed " + seed);
                 break;
             }
         }
+        Check.that("a row reaches the limit of updates", filled);
         Check.end();
     }
 
-    private void run(long seed) {
-        for (int call = 0; call < 512 && Check.wrongSoFar() == 0; call++) {
+    private void run() {
+        for (int call = 0; call < STEPS && Check.wrongSoFar() == 0; call++) {
             step();
         }
         for (int address = 0; address < 256; address++) {
