@@ -617,7 +617,8 @@ public final class Bgpreplay {
             Route found = null;
             for (int i = 0; i < keptCount; i++) {
                 Route route = kept[i];
-                if (route.standsAfter(updatesThen) && route.prefix.has(address) && route.isFoundBefore(found)) {
+                if (route != null && route.standsAfter(updatesThen) && route.prefix.has(address)
+                        && route.isFoundBefore(found)) {
                     found = route;
                 }
             }
@@ -642,8 +643,11 @@ public final class Bgpreplay {
             }
             for (int i = 0; i < keptCount; i++) {
                 Route route = kept[i];
+                if (route == null || !route.standsAfter(updatesThen)) {
+                    continue;
+                }
                 int number = route.prefix.number;
-                if (route.standsAfter(updatesThen) && isPrefixNumber(number) && route.isBetterThan(best[number])) {
+                if (isPrefixNumber(number) && route.isBetterThan(best[number])) {
                     best[number] = route;
                 }
             }
@@ -677,8 +681,9 @@ public final class Bgpreplay {
             return prefix.covers(route.prefix);
         }
 
+        /** To be asked of a route that the entry concerns. */
         boolean permits(Route route) {
-            return concerns(route) && origin == route.path.origin() && longest >= route.prefix.length;
+            return origin == route.path.origin() && longest >= route.prefix.length;
         }
     }
 
@@ -692,7 +697,8 @@ public final class Bgpreplay {
 
         int placeOf(Entry entry) {
             for (int place = 0; place < size; place++) {
-                if (entries[place].isLike(entry)) {
+                Entry entered = entries[place];
+                if (entered != null && entered.isLike(entry)) {
                     return place;
                 }
             }
@@ -718,12 +724,14 @@ public final class Bgpreplay {
         int judge(Route route) {
             boolean concerned = false;
             for (int place = 0; place < size; place++) {
-                if (entries[place].permits(route)) {
+                Entry entry = entries[place];
+                if (entry == null || !entry.concerns(route)) {
+                    continue;
+                }
+                if (entry.permits(route)) {
                     return VALID;
                 }
-                if (entries[place].concerns(route)) {
-                    concerned = true;
-                }
+                concerned = true;
             }
             return concerned ? INVALID : NOT_FOUND;
         }

@@ -53,6 +53,35 @@ final class Check {
         same(what, "true", String.valueOf(holds));
     }
 
+    /** A sentence of the document that names a boundary case, and the test of its own that it has. */
+    static void holds(String sentence, Runnable test) {
+        int before = wrong;
+        try {
+            test.run();
+        } catch (RuntimeException e) {
+            wrong++;
+            System.out.println("a call that is due to answer throws " + e);
+        }
+        if (wrong > before) {
+            System.out.println("so this does not hold: " + sentence);
+        }
+    }
+
+    interface Refused {
+        void callOn(Bgpreplay x);
+    }
+
+    interface Made {
+        Bgpreplay anew();
+    }
+
+    /** "A call that throws changes nothing": the object answers like one on which nothing was refused. */
+    static void unchanged(Made made, Refused refused) {
+        Bgpreplay x = made.anew();
+        refused.callOn(x);
+        same("what is seen behind refused calls", Seen.of(made.anew()), Seen.of(x));
+    }
+
     static int wrongSoFar() {
         return wrong;
     }
@@ -83,7 +112,7 @@ final class Check {
     };
 
     static final int[] NO_PEERS = {-1, 6, 7, LOW, HIGH};
-    static final int[] NO_NETWORKS = {0, 31, -1, 32, LOW, HIGH};
+    static final int[] NO_NETWORKS = {0, 31, -1, 32, 33, 62, 63, -31, LOW, HIGH};
     static final int[] NO_ADDRESSES = {-1, 256, 257, LOW, HIGH};
 
     interface OfPeer {
