@@ -198,9 +198,10 @@ public final class BoundsOfTableTest {
 
     private static void lookUpByScan() {
         Bgpreplay x = Story.some();
+        Bgpreplay y = Story.some();
         for (int address = 0; address < 256; address++) {
             int a = address;
-            Check.same("address " + a, Check.outcome(() -> x.lookUp(a)), Check.outcome(() -> x.lookUpByScan(a)));
+            Check.same("address " + a, Check.outcome(() -> x.lookUp(a)), Check.outcome(() -> y.lookUpByScan(a)));
         }
     }
 
