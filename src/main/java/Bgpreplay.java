@@ -157,6 +157,7 @@ public final class Bgpreplay {
 
     public int lookUpByScan(int address) throws IndexOutOfBoundsException {
         needAddress(address);
+        // Of all kept routes, those that stand behind the last update are the ones that the peers have now.
         return lengthOf(history.routeFor(address, history.size()));
     }
 

@@ -7,8 +7,8 @@ import java.util.Random;
  * the limit of updates; the program does not tell these calls from the others.
  */
 public final class AgainstModelTest {
-    private static final int[] WILD = {Integer.MIN_VALUE, -257, -9, -1, 0, 1, 6, 7, 8, 9, 30, 31, 32, 255, 256, 257, 511,
-        512, 1000, 1001, 1000000, Integer.MAX_VALUE};
+    private static final int[] WILD = {Integer.MIN_VALUE, -257, -9, -1, 0, 1, 6, 7, 8, 9, 30, 31, 32, 255, 256, 257,
+        511, 512, 1000, 1001, 1000000, Integer.MAX_VALUE};
 
     private static final int STEPS = 1500;
 
@@ -96,7 +96,7 @@ public final class AgainstModelTest {
     private void makePath(int peer) {
         both("clearPath", real::clearPath, model::clearPath);
         hop(peer + 1);
-        for (int i = random.nextInt(5); i > 0; i--) {
+        for (int i = random.nextInt(one(4) ? 12 : 5); i > 0; i--) {
             hop(network());
         }
     }
