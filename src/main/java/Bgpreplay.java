@@ -362,7 +362,7 @@ public final class Bgpreplay {
                 return false;
             }
             for (int place = 0; place < size; place++) {
-                if (networks[place] == network) {
+                if (networkAt(place) == network) {
                     return true;
                 }
             }
@@ -383,7 +383,7 @@ public final class Bgpreplay {
         Path copy() {
             Path path = new Path();
             for (int place = 0; place < size; place++) {
-                path.add(networks[place]);
+                path.add(networkAt(place));
             }
             return path;
         }
@@ -393,7 +393,7 @@ public final class Bgpreplay {
                 return false;
             }
             for (int place = 0; place < size; place++) {
-                if (networks[place] != other.networks[place]) {
+                if (networkAt(place) != other.networkAt(place)) {
                     return false;
                 }
             }
